@@ -297,6 +297,7 @@ final class FormeTests {
         Cases.dueText("the first ones go", Cases.heap(x), "b");
         Cases.dueText("without slips", Cases.box(x, 'a'), "aa");
         Cases.dueText("c", Cases.box(x, 'c'), "c");
+        Cases.dueText("b is not sorted yet", Cases.box(x, 'b'), "");
         Check.due("minutes", x.value(7) - minutes, 3);
         Check.due("not distributed", x.value(8), 0);
         Check.due("sortHeap(99)", x.sortHeap(99), 1);
@@ -338,6 +339,7 @@ final class FormeTests {
         Check.due("sortHeap(99)", x.sortHeap(99), 99);
         Check.due("heap then", x.value(2), 13);
         Check.due("sortHeap(14)", x.sortHeap(14), 13);
+        Check.due("all sorts", x.value(3), 120);
     }
 
     private static void formes() {
@@ -382,6 +384,9 @@ final class FormeTests {
             Check.noIndex("place of line " + wrong, x, () -> x.place(0, wrong, 0, 4));
             Check.noIndex("place " + wrong, x, () -> x.place(0, 0, wrong, 4));
         }
+        Check.noIndex("place(0, 2, 0, 0)", x, () -> x.place(0, 2, 0, 0));
+        Check.noIndex("place(0, -1, 0, 0)", x, () -> x.place(0, -1, 0, 0));
+        Check.noIndex("place(0, 1, -1, 0)", x, () -> x.place(0, 1, -1, 0));
         Check.noIndex("place behind the second line", x, () -> x.place(0, 1, 1, 0));
         Check.noIndex("places of a forme without lines", x, () -> x.places(1, 0));
         Check.noIndex("place of a forme without lines", x, () -> x.place(1, 0, 0, 0));
@@ -426,6 +431,11 @@ final class FormeTests {
 
     private static void noForme() {
         SortsCase x = new SortsCase();
+        x.buy(0, 3);
+        for (int forme = 0; forme < 3; forme++) {
+            Cases.setText(x, forme, "a");
+        }
+        x.clearText();
         for (int forme : new int[] {3, -1, Integer.MIN_VALUE, Integer.MAX_VALUE}) {
             Check.noIndex("setLine(" + forme + ") without text", x, () -> x.setLine(forme));
             Check.noIndex("correct(" + forme + ")", x, () -> x.correct(forme));

@@ -2,7 +2,7 @@ import java.util.Random;
 
 /** Long runs of calls on SortsCase and on PlainModel, whose answers must be the same. */
 final class ModelTests {
-    private static final int RUNS = 400;
+    private static final int RUNS = 200;
     private static final int CALLS = 512;
     private static final String[] CALL_NAMES = {
         "buy", "buy", "buyLacking", "spill", "spill", "clean", "set", "letter", "inBox", "value", "setLine",

@@ -8,6 +8,8 @@ final class StateTests {
         clearing();
         undoing();
         undoneByEveryCall();
+        undoneSetAnew();
+        undoneNumbers();
         digestOfNewObject();
         digests();
     }
@@ -76,14 +78,61 @@ final class StateTests {
         Cases.setText(x, 2, "aba");
         x.pie(2);
         x.spill(1, 0, 1);
+        x.buy(2, 1);
         Cases.type(x, "zz a");
         for (int which = 0; which < 10; which++) {
-            long before = x.digest();
-            undoable(x, which);
-            Check.that("call " + which + " changes the state", x.digest() != before);
-            Check.due("undo of call " + which, x.undo(), 3);
+            // The last but one state has another price, so that an undo too far is seen.
+            x.set(3, 6);
             x.set(3, 5);
-            Check.due("digest behind undo of call " + which, x.digest(), before);
+            long before = digest(x, "zz a", 4);
+            undoable(x, which);
+            Check.that("call " + which + " changes the state", digest(x, "zz a", 4) != before);
+            Check.due("undo of call " + which, x.undo(), 3);
+            Check.due("digest behind undo of call " + which, x.digest(), digest(x, "zz a", 3));
+            Check.due("state behind undo of call " + which, digest(x, "zz a", 4), before);
+        }
+    }
+
+    /** A forme that is distributed and set anew comes back with its own lines and turned sorts. */
+    private static void undoneSetAnew() {
+        SortsCase x = new SortsCase();
+        Cases.buyFor(x, "aaaabb");
+        Cases.setText(x, 1, "ac");
+        Cases.setText(x, 1, "bca");
+        Cases.dueText("the first line", Cases.line(x, 1, 0), "aA");
+        Cases.dueText("the second line", Cases.line(x, 1, 1), "bAa");
+        x.distribute(1);
+        Cases.setText(x, 1, "abb");
+        Cases.setText(x, 1, "a");
+        x.undo();
+        x.undo();
+        Check.due("undo()", x.undo(), 1);
+        Check.due("places(1, 0)", x.places(1, 0), 2);
+        Check.due("places(1, 1)", x.places(1, 1), 3);
+        Cases.dueText("the first line again", Cases.line(x, 1, 0), "aA");
+        Cases.dueText("the second line again", Cases.line(x, 1, 1), "bAa");
+        Check.due("proof(1, 0)", x.proof(1, 0), 1);
+        Check.due("proof(1, 1)", x.proof(1, 1), 101);
+        Check.due("proof(1, 2)", x.proof(1, 2), SortsCase.NONE);
+    }
+
+    /** The saved state has the numbers, too. */
+    private static void undoneNumbers() {
+        SortsCase x = new SortsCase();
+        x.set(7, 11);
+        x.buy(0, 2);
+        Cases.setText(x, 0, "aa");
+        x.distribute(0);
+        int[] due = {7, 11, 22, 4, 2};
+        x.set(5, 9);
+        x.buyLacking();
+        x.setLine(0);
+        x.distribute(0);
+        for (int count = 0; count < 4; count++) {
+            x.undo();
+        }
+        for (int what = 0; what < due.length; what++) {
+            Check.due("value(" + (4 + what) + ") behind undo", x.value(4 + what), due[what]);
         }
     }
 

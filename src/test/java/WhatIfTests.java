@@ -136,6 +136,22 @@ final class WhatIfTests {
         x.set(0, 3);
         Check.due("without slips", x.bestToDistribute(), 0);
         bestIsNotToDistribute();
+        bestWithErrorsAlone();
+    }
+
+    private static void bestWithErrorsAlone() {
+        SortsCase x = new SortsCase();
+        x.buy(0, 17);
+        Cases.setText(x, 0, "a");
+        Cases.type(x, "bbbbbbbbbbbbbbbb");
+        Check.due("16 errors each way", x.bestToDistribute(), 0);
+        Check.due("errorsIfSet()", x.errorsIfSet(), 16);
+        Check.due("turnedIfSet()", x.turnedIfSet(), 16);
+        x.buy(1, 1);
+        x.spill(1, 0, 1);
+        x.distribute(0);
+        x.setLine(2);
+        Check.due("only forme 2 has the sorts", x.bestToDistribute(), 2);
     }
 
     private static void bestIsNotToDistribute() {
