@@ -8,6 +8,11 @@ final class AllTests {
         FormeTests.run();
         WhatIfTests.run();
         StateTests.run();
+        CaseEdgeTests.run();
+        FormeEdgeTests.run();
+        WhatIfEdgeTests.run();
+        StateEdgeTests.run();
+        RefusalTests.run();
         FaceTests.run();
         ModelTests.run();
         System.out.println(Check.summary());

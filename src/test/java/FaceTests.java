@@ -7,13 +7,34 @@ import java.util.TreeSet;
 
 /** The class shows the document's face and nothing else (rule 1 of LANGUAGE.md). */
 final class FaceTests {
+    /** Index, Argument and State stand for the three exceptions of the document. */
     private static final Set<String> FACE = Set.of(
-            "int buy(int, int)", "int buyLacking()", "int spill(int, int, int)", "int clean(int)",
-            "int set(int, int)", "int letter(int, int)", "int inBox(int, int)", "int value(int)",
-            "int setLine(int)", "int correct(int)", "int distribute(int)", "int pie(int)", "int sortHeap(int)",
-            "int forme(int, int)", "int places(int, int)", "int place(int, int, int, int)",
-            "int proof(int, int)", "int inHeap(int)", "int errorsIfSet()", "int turnedIfSet()", "int copies()",
-            "int bestToDistribute()", "double order()", "int append(int)", "int clearText()", "int undo()",
+            "int buy(int, int) throws Index, Argument, State",
+            "int buyLacking() throws State",
+            "int spill(int, int, int) throws Index, Argument, State",
+            "int clean(int) throws Index",
+            "int set(int, int) throws Argument",
+            "int letter(int, int) throws Index, Argument",
+            "int inBox(int, int) throws Index",
+            "int value(int) throws Argument",
+            "int setLine(int) throws Index, State",
+            "int correct(int) throws Index",
+            "int distribute(int) throws Index",
+            "int pie(int) throws Index",
+            "int sortHeap(int) throws Argument",
+            "int forme(int, int) throws Index, Argument",
+            "int places(int, int) throws Index",
+            "int place(int, int, int, int) throws Index, Argument",
+            "int proof(int, int) throws Index",
+            "int inHeap(int) throws Index",
+            "int errorsIfSet()",
+            "int turnedIfSet()",
+            "int copies()",
+            "int bestToDistribute()",
+            "double order()",
+            "int append(int) throws Argument, State",
+            "int clearText()",
+            "int undo() throws State",
             "long digest()");
 
     private FaceTests() {
@@ -52,7 +73,19 @@ final class FaceTests {
         for (Class<?> type : method.getParameterTypes()) {
             parameters.append(parameters.length() == 0 ? "" : ", ").append(type.getName());
         }
-        return method.getReturnType().getName() + " " + method.getName() + "(" + parameters + ")";
+        return method.getReturnType().getName() + " " + method.getName() + "(" + parameters + ")" + told(method);
+    }
+
+    /** The exceptions that the method tells, in their order. */
+    private static String told(Method method) {
+        StringBuilder told = new StringBuilder();
+        for (Class<?> type : method.getExceptionTypes()) {
+            String name = type == IndexOutOfBoundsException.class ? "Index"
+                    : type == IllegalArgumentException.class ? "Argument"
+                    : type == IllegalStateException.class ? "State" : type.getName();
+            told.append(told.length() == 0 ? " throws " : ", ").append(name);
+        }
+        return told.toString();
     }
 
     private static void fields() {
