@@ -14,6 +14,7 @@ final class AllTests {
         StateEdgeTests.run();
         RefusalTests.run();
         FaceTests.run();
+        ReadmeTests.run();
         ModelTests.run();
         System.out.println(Check.summary());
         if (Check.failed() != 0) {

@@ -48,6 +48,15 @@ final class FaceTests {
         Constructor<?>[] constructors = SortsCase.class.getDeclaredConstructors();
         Check.due("constructors", constructors.length, 1);
         Check.that("the constructor is public", Modifier.isPublic(constructors[0].getModifiers()));
+        classesInside();
+    }
+
+    private static void classesInside() {
+        for (Class<?> inside : SortsCase.class.getDeclaredClasses()) {
+            int modifiers = inside.getModifiers();
+            Check.that(inside + " is static", Modifier.isStatic(modifiers));
+            Check.that(inside + " is not shown", !Modifier.isPublic(modifiers) && !Modifier.isProtected(modifiers));
+        }
     }
 
     private static void methods() {

@@ -1,9 +1,14 @@
+import java.util.Arrays;
 import java.util.Random;
 
 /** Long runs of calls on SortsCase and on PlainModel, whose answers must be the same. */
 final class ModelTests {
-    private static final int RUNS = 200;
-    private static final int CALLS = 512;
+    private static final int RUNS = 400;
+    // A digest stands behind each call, and the document promises 512 calls in all.
+    private static final int CALLS = 256;
+    // Every other run begins near the limits: 240 sorts and a text of 16 letters.
+    private static final int FIRST_BUYS = 8;
+    private static final int FIRST_LETTERS = 16;
     private static final String[] CALL_NAMES = {
         "buy", "buy", "buyLacking", "spill", "spill", "clean", "set", "letter", "inBox", "value", "setLine",
         "setLine", "setLine", "correct", "distribute", "pie", "sortHeap", "forme", "places", "place", "proof",
@@ -33,16 +38,32 @@ final class ModelTests {
     }
 
     private boolean playsAlike(int seed) {
+        int crowding = seed % 2 == 0 ? FIRST_BUYS + FIRST_LETTERS : 0;
         for (int count = 0; count < CALLS; count++) {
-            String call = CALL_NAMES[random.nextInt(CALL_NAMES.length)];
-            int[] a = arguments(call);
-            Object got = answer(call, a);
-            Object due = model.play(call, a);
-            if (!got.equals(due) || x.digest() != (Long) model.play("digest")) {
-                System.out.println("run " + seed + ", call " + count + ": " + call + java.util.Arrays.toString(a)
-                        + " answered " + got + ", the model " + due);
+            String where = "run " + seed + ", call " + count;
+            if (!(count < crowding ? crowds(where, count) : playsAny(where))) {
                 return false;
             }
+        }
+        return true;
+    }
+
+    private boolean crowds(String where, int count) {
+        return count < FIRST_BUYS ? playsAlike(where, "buy", letter(), 30)
+                : playsAlike(where, "append", value(letter()));
+    }
+
+    private boolean playsAny(String where) {
+        String call = CALL_NAMES[random.nextInt(CALL_NAMES.length)];
+        return playsAlike(where, call, arguments(call));
+    }
+
+    private boolean playsAlike(String where, String call, int... a) {
+        Object got = answer(call, a);
+        Object due = model.play(call, a);
+        if (!got.equals(due) || x.digest() != (Long) model.play("digest")) {
+            System.out.println(where + ": " + call + Arrays.toString(a) + " answered " + got + ", the model " + due);
+            return false;
         }
         return true;
     }
